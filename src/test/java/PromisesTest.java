@@ -325,6 +325,8 @@ public final class PromisesTest {
     mendsTo("F100100F105051", 2, 0);
     mendsTo("F105050F105101", 1, 0);
     mendsTo("E11E10E11E10E11E10E11E10E11E10", 341, 0);
+    // each two of the ten fight: nine have to go
+    mendsTo("E00E01H000100H000120H000140H000160H000180H000200H000220H000240", 511, 0);
     due("changes, asked first", of("F100200F120301").changes(), 10);
     TwoHousesOneChild x = of("Y000100F000101");
     due("in an odd year", x.mend(), 1);
