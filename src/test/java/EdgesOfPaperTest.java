@@ -459,6 +459,30 @@ public final class EdgesOfPaperTest extends Trial {
     tellsOf("E51F405060E61", "11111" + "00" + "1".repeat(49));
   }
 
+  static void promise07_ranksToldFromTheLastToTheFirst() {
+    StringBuilder paper = new StringBuilder();
+    for (int rank = 8; rank >= 0; rank--) paper.append(String.format("F%d000%d%d", rank, rank, rank % 2));
+    Child x = of(paper.toString());
+    same("whose", whoseOf(x), row(0, 8, "010101010"));
+    for (int n = 0; n <= 8; n++) due("words " + n, x.words(n), 1 << 8 - n);
+  }
+
+  static void promise07_ranksToldInAnyOrder() {
+    for (int order = 0; order < 256; order++) {
+      int[] ranks = {order & 3, order >> 2 & 3, order >> 4 & 3, order >> 6};
+      StringBuilder paper = new StringBuilder();
+      int least = 3, bits = 0;
+      for (int rank : ranks) least = Math.min(least, rank);
+      for (int rule = 0; rule < 4; rule++) {
+        paper.append("E").append(ranks[rule] * 3).append(ranks[rule] == least ? 1 : 0);
+        if (ranks[rule] == least) bits |= 1 << rule;
+      }
+      Child x = of(paper.toString());
+      due("whose by " + paper, x.whose(7), 1);
+      due("words by " + paper, x.words(7), bits);
+    }
+  }
+
   static void promise07_openAlikeOrFighting() {
     tellsOf("", "2".repeat(56));
     tellsOf("E00E00", "0".repeat(56));
@@ -616,6 +640,11 @@ public final class EdgesOfPaperTest extends Trial {
     mends("E90E91E90E91E90E91E90E91E90E91", 341, 0);
     mends("E91E90E90E90E90E90E90E90E90E90", 1, 0);
     mends("E90E90E90E90E90E90E90E90E90E91", 512, 0);
+  }
+
+  static void promise12_nineOfTenHaveToGo() {
+    // each two of them FIGHT at some NIGHT, and each NIGHT FIGHTS
+    mends("E00E01H000100H000120H000140H000160H000180H000200H000220H000240", 511, 0);
   }
 
   static void promise12_whatComesOutUnderIt() {

@@ -269,6 +269,22 @@ public final class EdgesOfPlansTest extends Trial {
     due("the other wishes stay", x.wish(5, 1, 1), 14000);
   }
 
+  static void promise20_noneOfThemComesBack() {
+    Child x = new Child();
+    x.wish(14, 0, 0);
+    for (int night = 0; night <= 55; night += 55) {
+      x.want(night, 0, 9);
+      x.want(night, 1, 8);
+    }
+    x.unwant();
+    due("best", x.best(), 0);
+    due("a want of another night", x.want(7, 0, 5), 0);
+    due("cost", x.cost(), 0);
+    plan(x, ONES);
+    due("cost", x.cost(), 5);
+    due("best", x.best(), 0);
+  }
+
   // ---- promise 21
 
   /** HOUSES in turn, so many NIGHTS each. */
@@ -313,6 +329,17 @@ public final class EdgesOfPlansTest extends Trial {
     x.put(0, 1);
     // one HANDING less, one NIGHT of a longer RUN more
     due("they are so", x.cost(), 495);
+  }
+
+  static void promise21_wantsAtTheFirstNightAndTheLast() {
+    for (int night = 0; night <= 55; night += 55) for (int house = 0; house <= 1; house++) {
+      Child x = new Child();
+      x.wish(14, 0, 0);
+      x.want(night, house, 9);
+      due("want " + night + " at " + house, x.cost(), house * 9);
+      x.put(night, 1);
+      due("want " + night + " at " + house, x.cost(), (1 - house) * 9);
+    }
   }
 
   static void promise21_changesNothing() {
@@ -416,6 +443,30 @@ public final class EdgesOfPlansTest extends Trial {
     due("cost", x.cost(), best);
     due("judge", x.judge(), NONE);
     due("take again", x.take(), 0);
+  }
+
+  private static void takes(String paper, int m, int a, int j, String houses) {
+    Child x = of(paper);
+    x.wish(m, a, j);
+    x.take();
+    same("plan by " + paper, planOf(x), houses);
+  }
+
+  static void promise24_runsFromNight0On() {
+    takes("", 2, 9, 1, "0011".repeat(14));
+    takes("F000001", 2, 9, 1, "1100".repeat(14));
+    takes("", 14, 9, 1, ("0".repeat(14) + "1".repeat(14)).repeat(2));
+    takes("F000001", 14, 9, 1, ("1".repeat(14) + "0".repeat(14)).repeat(2));
+    takes("F000001", 14, 0, 1, ONES);
+    takes("F055551", 14, 0, 1, ONES);
+  }
+
+  static void promise24_ofLikeOnesTheFirst() {
+    takes("", 14, 0, 0, ZEROS);
+    takes("", 1, 9, 0, TURNS);
+    takes("", 2, 9, 0, "001".repeat(18) + "00");
+    takes("F000001", 2, 9, 0, "100".repeat(18) + "10");
+    takes("F000000F055551", 14, 0, 9, "0".repeat(55) + "1");
   }
 
   static void promise24_theRestStays() {

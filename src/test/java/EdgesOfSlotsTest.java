@@ -273,7 +273,7 @@ public final class EdgesOfSlotsTest extends Trial {
       x.late(55, 15);
     }
     x.keep(1);
-    give(x, "");
+    give(x, "E00".repeat(10));
     plan(x, "10");
     x.late(1, 20);
     x.late(2, 20);

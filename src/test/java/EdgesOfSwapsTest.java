@@ -222,7 +222,10 @@ public final class EdgesOfSwapsTest extends Trial {
     due("it is there", new Child().wedding(5, 0), NONE);
     due("it is there, others too", planned(ONES).wedding(5, 1), NONE);
     due("there is no such night", new Child().wedding(5, 1), NONE);
-    due("there is no such night", planned(ONES).wedding(5, 0), NONE);
+    for (int night : new int[] {0, 5, 13, 14, 41, 42, 50, 55}) {
+      due("there is no such night", planned(ONES).wedding(night, 0), NONE);
+      due("there is no such night", new Child().wedding(night, 1), NONE);
+    }
   }
 
   static void promise30_ofLikeOnesTheLeast() {
