@@ -668,70 +668,83 @@ public final class TwoHousesOneChild {
         }
     }
 
-    /** A PAPER: of each RULE its RANK, the NIGHTS it tells of, and those of HOUSE 1 in an odd YEAR. */
+    /**
+     * A PAPER: of each RULE its number, its RANK, the NIGHTS it tells of, and those of HOUSE 1 in an
+     * odd YEAR. RULES stand in the order of their RANKS, so that one pass is enough to read the PAPER.
+     */
     static final class Paper {
         int size;
+        final int[] numbers = new int[MOST_RULES];
         final int[] ranks = new int[MOST_RULES];
         final long[] told = new long[MOST_RULES];
         final long[] ones = new long[MOST_RULES];
         final boolean[] turnsByYear = new boolean[MOST_RULES];
-        /** RULES by RANK, so that one pass over them is enough to read the PAPER. */
-        final int[] byRank = new int[MOST_RULES];
 
         void addRule(int rank, long nights, long nightsOfOne, boolean turns) {
             if (size < 0 || size >= MOST_RULES) {
                 return;
             }
-            ranks[size] = rank;
-            told[size] = nights;
-            ones[size] = nightsOfOne;
-            turnsByYear[size] = turns;
             int place = size;
-            while (place > 0 && ranks[byRank[place - 1]] > rank) {
-                byRank[place] = byRank[place - 1];
+            while (place > 0 && ranks[place - 1] > rank) {
+                copyRule(this, place - 1, place);
                 place--;
             }
-            byRank[place] = size;
+            numbers[place] = size;
+            ranks[place] = rank;
+            told[place] = nights;
+            ones[place] = nightsOfOne;
+            turnsByYear[place] = turns;
             size++;
         }
 
         void copyOf(Paper other) {
-            size = other.size;
-            for (int rule = 0; rule < MOST_RULES; rule++) {
-                ranks[rule] = other.ranks[rule];
-                told[rule] = other.told[rule];
-                ones[rule] = other.ones[rule];
-                turnsByYear[rule] = other.turnsByYear[rule];
-                byRank[rule] = other.byRank[rule];
+            for (int place = 0; place < MOST_RULES; place++) {
+                copyRule(other, place, place);
             }
+            size = other.size;
         }
 
-        long nightsOfOne(int rule, int year) {
-            boolean turned = turnsByYear[rule] && (year & 1) == 0;
-            return turned ? told[rule] & ~ones[rule] : ones[rule];
+        void copyRule(Paper other, int from, int to) {
+            if (from < 0 || from >= MOST_RULES || to < 0 || to >= MOST_RULES) {
+                return;
+            }
+            numbers[to] = other.numbers[from];
+            ranks[to] = other.ranks[from];
+            told[to] = other.told[from];
+            ones[to] = other.ones[from];
+            turnsByYear[to] = other.turnsByYear[from];
+        }
+
+        long nightsOfOne(int place, int year) {
+            if (place < 0 || place >= MOST_RULES) {
+                return 0;
+            }
+            boolean turned = turnsByYear[place] && (year & 1) == 0;
+            return turned ? told[place] & ~ones[place] : ones[place];
         }
 
         int tells(int rule, int night, int year) {
-            if (rule < 0 || rule >= size || !Nights.holds(told[rule], night)) {
-                return NONE;
+            for (int place = 0; place < size && place < MOST_RULES; place++) {
+                if (numbers[place] == rule && Nights.holds(told[place], night)) {
+                    return Nights.houseAt(nightsOfOne(place, year), night);
+                }
             }
-            return Nights.houseAt(nightsOfOne(rule, year), night);
+            return NONE;
         }
 
         /** RULES of the least RANK that tell of a NIGHT, as bits. */
         int foremost(int night) {
             int bits = 0;
             int least = NONE;
-            for (int i = 0; i < size; i++) {
-                int rule = byRank[i];
-                if (!Nights.holds(told[rule], night)) {
+            for (int place = 0; place < size && place < MOST_RULES; place++) {
+                if (!Nights.holds(told[place], night)) {
                     continue;
                 }
                 if (least == NONE) {
-                    least = ranks[rule];
+                    least = ranks[place];
                 }
-                if (ranks[rule] == least) {
-                    bits |= 1 << rule;
+                if (ranks[place] == least) {
+                    bits |= 1 << numbers[place];
                 }
             }
             return bits;
@@ -743,20 +756,19 @@ public final class TwoHousesOneChild {
             long zero = 0;
             long one = 0;
             int rank = NONE;
-            for (int i = 0; i < size; i++) {
-                int rule = byRank[i];
-                if ((without >> rule & 1) != 0) {
+            for (int place = 0; place < size && place < MOST_RULES; place++) {
+                if ((without >> numbers[place] & 1) != 0) {
                     continue;
                 }
-                if (ranks[rule] != rank) {
+                if (ranks[place] != rank) {
                     reading.settle(zero, one);
                     zero = 0;
                     one = 0;
-                    rank = ranks[rule];
+                    rank = ranks[place];
                 }
-                long ofOne = nightsOfOne(rule, year);
+                long ofOne = nightsOfOne(place, year);
                 one |= ofOne;
-                zero |= told[rule] & ~ofOne;
+                zero |= told[place] & ~ofOne;
             }
             reading.settle(zero, one);
         }

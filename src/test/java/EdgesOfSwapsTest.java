@@ -350,6 +350,18 @@ public final class EdgesOfSwapsTest extends Trial {
     due("all fight", third(x, 10), NONE);
   }
 
+  static void promise31_whereverThePlanHasIt() {
+    Child x = of("F020211"), at = of("F020211");
+    x.put(10, 1);
+    due("at the other house before", third(x, 10), 20);
+    same("plan", planOf(x), "0".repeat(10) + "1" + "0".repeat(45));
+    due("the same one the sixth time", third(x, 10), 20);
+    for (int n : new int[] {10, 20, 21}) at.put(n, 1);
+    due("at its own house before", third(at, 10), 20);
+    same("plan", planOf(at), "0".repeat(10) + "1" + "0".repeat(10) + "1" + "0".repeat(34));
+    due("the same one the sixth time", third(at, 10), 20);
+  }
+
   static void promise31_byTheYear() {
     Child x = of("Y020201Y021210");
     x.put(10, 1);
